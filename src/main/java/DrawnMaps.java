@@ -112,7 +112,7 @@ public final class DrawnMaps {
         }
         bytes = 0;
         reader.begin(now.n);
-        for (int i = 0; i < k; i++) {
+        for (int i = 0; i < k && i < MOST_BYTES; i++) {
             int fault = reader.fault(tape[i]);
             if (fault != 0) {
                 return FAULT * fault - i;
@@ -1276,7 +1276,7 @@ public final class DrawnMaps {
                 ringFrom[x] = Perm.ring(from, x);
                 ringTo[x] = Perm.ring(to, x);
             }
-            grow(Perm.tail(n), Perm.darts(n), Perm.darts(n), 0);
+            grow(this, Perm.tail(n), Perm.darts(n), Perm.darts(n), 0);
         }
 
         int nth(int i) {
@@ -1284,24 +1284,25 @@ public final class DrawnMaps {
         }
 
         /** The least dart without a label gets each label in turn: its cycle's labels follow. */
-        private void grow(int r, int left, int free, int depth) {
-            if (depth > MOST_DARTS || many >= MOST_PERMUTATIONS) {
+        private static void grow(Relabels rows, int r, int left, int free, int depth) {
+            if (depth > MOST_DARTS || rows.many >= MOST_PERMUTATIONS) {
                 return;
             }
             if (left == 0) {
-                found[many] = r;
-                many++;
+                rows.found[rows.many] = r;
+                rows.many++;
                 return;
             }
             int x = Perm.lowest(left);
             if (x > MOST_DARTS) {
                 return;
             }
-            int ring = ringFrom[x];
+            int ring = rows.ringFrom[x];
             int size = Integer.bitCount(ring);
-            for (int y = 1; y <= n && y <= MOST_DARTS; y++) {
-                if ((free & Perm.bit(y)) != 0 && Integer.bitCount(ringTo[y]) == size) {
-                    grow(r | laid(x, y, size), left & ~ring, free & ~ringTo[y], depth + 1);
+            for (int y = 1; y <= rows.n && y <= MOST_DARTS; y++) {
+                int goal = rows.ringTo[y];
+                if ((free & Perm.bit(y)) != 0 && Integer.bitCount(goal) == size) {
+                    grow(rows, r | rows.laid(x, y, size), left & ~ring, free & ~goal, depth + 1);
                 }
             }
         }
@@ -1615,8 +1616,8 @@ public final class DrawnMaps {
 
     /** All permutations of n by codes, and the maps of passports among them. */
     private static final class Census {
-        /** No passport has so many classes: the most, with seven darts, are 50. */
-        private static final int MOST_CLASSES = 128;
+        /** No passport has so many classes: 61, 61, 7 has the most, which are 40. */
+        private static final int MOST_CLASSES = 64;
         private final int[] every = new int[MOST_PERMUTATIONS];
         private final int[] kindOf = new int[MOST_PERMUTATIONS];
         private int n;
@@ -1672,12 +1673,12 @@ public final class DrawnMaps {
             int s = Perm.least(t1, n);
             for (int i = 0; i < total && i < MOST_PERMUTATIONS; i++) {
                 if (kindOf[i] == t2) {
-                    count(s, every[i]);
+                    tell(s, every[i]);
                 }
             }
         }
 
-        private void count(int s, int a) {
+        private void tell(int s, int a) {
             // what undoes f has f's type
             int at = Kind.index(Perm.kind(Perm.then(s, a), n), n);
             if (at >= 0 && at < Kind.MOST) {
