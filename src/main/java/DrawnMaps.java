@@ -1015,14 +1015,21 @@ public final class DrawnMaps {
 
         static int order(int p, int n) {
             int times = 1;
-            for (int x = 1; x <= n; x++) {
-                int size = Integer.bitCount(ring(p, x));
-                int step = times;
-                for (int i = 0; i < MOST_DARTS && size > 0 && times % size != 0; i++) {
-                    times += step;
-                }
+            int left = darts(n);
+            for (int i = 0; i < MOST_DARTS && left != 0; i++) {
+                int ring = ring(p, lowest(left));
+                left &= ~ring;
+                times = multiple(times, Integer.bitCount(ring));
             }
             return times;
+        }
+
+        private static int multiple(int times, int size) {
+            int sum = times;
+            for (int i = 0; i < size && sum % size != 0; i++) {
+                sum += times;
+            }
+            return sum;
         }
 
         static int times(int p, int k) {

@@ -1223,12 +1223,9 @@ public final class ModelTest {
         maps(6, 7919);
         for (int seed = 0; seed < 600; seed++) new ModelTest(seed, 5).play(250);
         for (int seed = 0; seed < 60; seed++) new ModelTest(seed, 6).play(250);
-        boolean seven = args.length > 0;
-        if (seven) {
-            passports(7);
-            maps(7, 99991);
-            for (int seed = 0; seed < 60; seed++) new ModelTest(seed, 7).play(250);
-        }
+        passports(7);
+        maps(7, 99991);
+        for (int seed = 0; seed < 60; seed++) new ModelTest(seed, 7).play(250);
         System.out.println(wrong == 0 ? "all answers are as due" : wrong + " answers are not as due");
         if (wrong != 0) System.exit(1);
     }
