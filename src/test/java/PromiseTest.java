@@ -128,6 +128,10 @@ public final class PromiseTest {
         due("e twice", text(0, "ee"), -1001);
         due("closed twice", text(0, "(1))"), -1003);
         due("another byte", text(0, "(1,2)"), -1002);
+        due("another byte for a number", text(0, "(,1)"), -1001);
+        due("a letter for a number", text(0, "(e)"), -1001);
+        due("a colon for a number", text(0, "(1 :)"), -1003);
+        due("a letter ahead", text(0, "E"), -1000);
         due("no such number", text(0, "(1 6)"), -2003);
         due("nought", text(0, "(0)"), -2001);
         due("nine", text(0, "(91)"), -2001);
@@ -273,6 +277,28 @@ public final class PromiseTest {
         due("count(11)", x.count(11), 1);
     }
 
+    /** Classes of one passport with their GROUPS and AUTS: which are siblings. */
+    private static void siblings() {
+        promise = 13;
+        x = new DrawnMaps();
+        siblings(5, 41, 41, 5, new int[] {120, 20, 20}, new int[] {1, 1, 1}, new int[] {1, 2, 2});
+        siblings(5, 5, 5, 5, new int[] {5, 60, 5, 5}, new int[] {5, 1, 5, 5}, new int[] {3, 1, 3, 3});
+        siblings(6, 2211, 6, 6, new int[] {36, 24, 120}, new int[] {1, 2, 1}, new int[] {1, 1, 1});
+    }
+
+    private static void siblings(int n, int t1, int t2, int t3, int[] orders, int[] auts, int[] want) {
+        x.degree(n);
+        due("classes", x.classes(t1, t2, t3, -1, 0), want.length);
+        for (int i = 0; i < want.length; i++) {
+            due("class's group", x.classes(t1, t2, t3, i, 3), orders[i]);
+            due("class's auts", x.classes(t1, t2, t3, i, 2), auts[i]);
+            int a = x.classes(t1, t2, t3, i, 1);
+            x.set(0, x.classes(t1, t2, t3, i, 0));
+            x.set(1, a);
+            due("count(8) of " + i, x.count(8), want[i]);
+        }
+    }
+
     private static void part() {
         // 1 4 6: three-cycles in one way (genus 1); 2 5 joined; 3 7 alone
         map(14, 7, 4236517, 4536217);
@@ -385,6 +411,11 @@ public final class PromiseTest {
         due("block(0,2)", x.block(0, 2), 12);
         due("block(0,3)", x.block(0, 3), 21);
         due("block(3,0)", x.block(3, 0), -2);
+        // sets come as 1 2, 5 6, 3 4 by s, but are numbered by their least darts
+        map(22, 6, 561234, 213456);
+        due("block(0,2)", x.block(0, 2), 312);
+        due("block(0,3)", x.block(0, 3), 123);
+        due("block(1,0)", x.block(1, 0), -2);
         map(22, 4, 2143, 1234);
         due("block(0,0) apart", x.block(0, 0), -2);
     }
@@ -514,6 +545,19 @@ public final class PromiseTest {
         due("code(0)", x.code(0), 213);
         map(31, 7, 1235476, 2451637);
         due("family of twelve", x.family(-1, 1), 12);
+        int[] blacks = new int[12];
+        int[] whites = new int[12];
+        for (int i = 0; i < 12; i++) {
+            blacks[i] = x.family(i, 0);
+            whites[i] = x.family(i, 1);
+            boolean rises = i == 0 || blacks[i] > blacks[i - 1] || blacks[i] == blacks[i - 1] && whites[i] > whites[i - 1];
+            due("family rises at " + i, rises ? 1 : 0, 1);
+        }
+        for (int i = 0; i < 12; i++) {
+            x.set(0, blacks[i]);
+            x.set(1, whites[i]);
+            for (int k = 0; k < 12; k++) due("family of " + i, x.family(k, 1), whites[k]);
+        }
     }
 
     private static void walk() {
@@ -686,6 +730,7 @@ public final class PromiseTest {
         tape("s");
         promise = 43;
         due("undo()", x.undo(), 1);
+        due("piece(0,2)", x.piece(0, 2), 213);
         due("code(0)", x.code(0), 23451);
         due("count(9)", x.count(9), 1);
         due("count(10)", x.count(10), 20);
@@ -714,6 +759,7 @@ public final class PromiseTest {
         codes();
         cycles();
         count();
+        siblings();
         part();
         canon();
         same();
