@@ -23,8 +23,6 @@ public final class DrawnMaps {
     private static final int MOST_GENUS = 3;
     private static final int OPERATIONS = 4;
 
-    private static final int[] FACTORIAL = {1, 1, 2, 6, 24, 120, 720, 5040};
-
     private final int[] tape = new int[MOST_BYTES];
     private int bytes;
     private int lot;
@@ -491,7 +489,7 @@ public final class DrawnMaps {
         }
         // a class has n! through AUTS maps, so the sum is the connected maps through n!
         long top = connectedMaps(t1, t2, t3);
-        long bottom = FACTORIAL[now.n];
+        long bottom = Kind.factorial(now.n);
         long common = common(top, bottom);
         if (common == 0) {
             return NONE;
@@ -638,7 +636,7 @@ public final class DrawnMaps {
         }
         census.prepare(now.n);
         int many = 0;
-        for (int at = 0; at < FACTORIAL[now.n]; at++) {
+        for (int at = 0; at < Kind.factorial(now.n); at++) {
             int q = census.permutation(at);
             if (Perm.isRoot(q, k, p)) {
                 if (many == i) {
@@ -1162,6 +1160,7 @@ public final class DrawnMaps {
             1111111, 211111, 31111, 22111, 4111, 3211, 2221, 511, 421, 331, 322, 61, 52, 43, 7
         };
         private static final int[] FIRST = {0, 0, 1, 3, 6, 11, 18, 29, 44};
+        private static final int[] FACTORIAL = {1, 1, 2, 6, 24, 120, 720, 5040};
         static final int MOST = 15;
         private static final int BEADS = 14;
 
@@ -1185,6 +1184,11 @@ public final class DrawnMaps {
             return NONE;
         }
 
+        /** How many permutations of n there are; 0: no such n. */
+        static int factorial(int n) {
+            return n < 1 || n > MOST_DARTS ? 0 : FACTORIAL[n];
+        }
+
         /** How many cycles a type tells. */
         static int parts(int t) {
             int many = 0;
@@ -1204,7 +1208,7 @@ public final class DrawnMaps {
                 before = rest % 10;
                 fixing *= before * run;
             }
-            return n < 1 || n > MOST_DARTS || fixing < 1 ? 0 : FACTORIAL[n] / fixing;
+            return fixing < 1 ? 0 : factorial(n) / fixing;
         }
 
         /**
@@ -1244,10 +1248,10 @@ public final class DrawnMaps {
         }
 
         static long byCharacters(int t1, int t2, int t3, int n) {
-            if (n < 1 || n > MOST_DARTS) {
+            long all = factorial(n);
+            if (all < 1) {
                 return 0;
             }
-            long all = FACTORIAL[n];
             long sum = 0;
             for (int i = 0; i < many(n); i++) {
                 int p = nth(n, i);
@@ -1647,7 +1651,7 @@ public final class DrawnMaps {
                 return;
             }
             n = degree;
-            total = FACTORIAL[n];
+            total = Kind.factorial(n);
             tallied1 = 0;
             listed1 = 0;
             int p = Perm.STAY;
