@@ -913,7 +913,10 @@ public final class ModelTest {
 
     // ---- runs
 
-    final DrawnMaps x = new DrawnMaps();
+    /** No object is used for more calls: what later ones answer is free. */
+    static final int MOST_CALLS = 512;
+    DrawnMaps x = new DrawnMaps();
+    int calls;
     final Random lots;
     final StringBuilder told = new StringBuilder();
     final int most;
@@ -983,7 +986,17 @@ public final class ModelTest {
         return lots.nextInt(15) == 0 ? near(1, 60) : text.length();
     }
 
+    /** A new object of n, if the old one has no room for so many calls. */
+    void room(int n, int more) {
+        if (calls + more <= MOST_CALLS) return;
+        x = new DrawnMaps();
+        x.degree(n);
+        degree(n);
+        calls = 1;
+    }
+
     void due(String call, long got, long want) {
+        calls++;
         told.append("  ").append(call).append(" = ").append(got).append('\n');
         if (got == want) return;
         wrong++;
@@ -1151,8 +1164,9 @@ public final class ModelTest {
         }
     }
 
-    void play(int calls) {
-        for (int i = 0; i < calls; i++) {
+    void play() {
+        // a turn takes at most nine calls
+        for (int i = 0; calls + 9 <= MOST_CALLS; i++) {
             switch (lots.nextInt(11)) {
                 case 0:
                 case 1: tell(); break;
@@ -1183,6 +1197,7 @@ public final class ModelTest {
                 m.told.setLength(0);
                 m.due("character " + t + " " + u, m.x.character(t, u), m.character(t, u));
                 for (int v : all) {
+                    m.room(n, 10 + 3 * (1 + m.classes(t, u, v, NONE, 0)));
                     String p = n + ": " + t + " " + u + " " + v;
                     for (int w = 0; w < 3; w++) m.due("triples " + p + " " + w, m.x.triples(t, u, v, w), m.triples(t, u, v, w));
                     int many = m.classes(t, u, v, NONE, 0);
@@ -1198,14 +1213,14 @@ public final class ModelTest {
     /** Every map of n, by what is dear to reckon. */
     static void maps(int n, int step) {
         ModelTest m = new ModelTest(0, n);
-        m.x.degree(n);
-        m.degree(n);
+        m.due("degree(" + n + ")", m.x.degree(n), m.degree(n));
         int at = 0;
         for (int[] s : every(n)) {
             for (int[] a : every(n)) {
                 at++;
                 if (at % step != 0) continue;
                 m.told.setLength(0);
+                m.room(n, 30);
                 m.due("set s " + code(s), m.x.set(0, code(s)), m.set(0, code(s)));
                 m.due("set a " + code(a), m.x.set(1, code(a)), m.set(1, code(a)));
                 for (int w = 0; w < 9; w++) m.due("count " + w, m.x.count(w), m.count(w));
@@ -1221,11 +1236,11 @@ public final class ModelTest {
         for (int n = 1; n <= 4; n++) maps(n, 1);
         maps(5, 97);
         maps(6, 7919);
-        for (int seed = 0; seed < 600; seed++) new ModelTest(seed, 5).play(250);
-        for (int seed = 0; seed < 60; seed++) new ModelTest(seed, 6).play(250);
+        for (int seed = 0; seed < 600; seed++) new ModelTest(seed, 5).play();
+        for (int seed = 0; seed < 60; seed++) new ModelTest(seed, 6).play();
         passports(7);
         maps(7, 99991);
-        for (int seed = 0; seed < 60; seed++) new ModelTest(seed, 7).play(250);
+        for (int seed = 0; seed < 60; seed++) new ModelTest(seed, 7).play();
         System.out.println(wrong == 0 ? "all answers are as due" : wrong + " answers are not as due");
         if (wrong != 0) System.exit(1);
     }
