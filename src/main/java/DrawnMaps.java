@@ -744,7 +744,7 @@ public final class DrawnMaps {
 
     /** All but the tape is kept. */
     public int keep() {
-        if (states >= MOST_STATES) {
+        if (states < 0 || states >= MOST_STATES || kept[states] == null) {
             return NONE;
         }
         kept[states].become(now);
@@ -754,7 +754,7 @@ public final class DrawnMaps {
 
     /** All is as it was kept last. */
     public int undo() {
-        if (states < 1 || states > MOST_STATES) {
+        if (states < 1 || states > MOST_STATES || kept[states - 1] == null) {
             return NONE;
         }
         states--;
@@ -1267,6 +1267,8 @@ public final class DrawnMaps {
 
     /** All relabellings that bring a permutation to another, by codes, and what comes of them. */
     private static final class Relabels {
+        /** More than any permutation. */
+        private static final int BEHIND_ALL = 0x8000000;
         private final int[] found = new int[MOST_PERMUTATIONS];
         private final int[] ringFrom = new int[MOST_DARTS + 1];
         private final int[] ringTo = new int[MOST_DARTS + 1];
@@ -1345,7 +1347,7 @@ public final class DrawnMaps {
         void settle(int degree, int s, int a) {
             leastS = Perm.least(Perm.kind(s, degree), degree);
             gather(degree, s, leastS);
-            leastA = Integer.MAX_VALUE;
+            leastA = BEHIND_ALL;
             auts = 0;
             for (int i = 0; i < many; i++) {
                 int white = Perm.relabelled(a, nth(i));

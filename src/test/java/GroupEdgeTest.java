@@ -41,6 +41,22 @@ public final class GroupEdgeTest extends Edges {
         // another a, another GROUP
         x.set(1, 1234567);
         row("ofType of a round of seven", i -> x.ofType(new int[] {1111111, 7, 211111}[i]), 1, 6, 0);
+        // the same turns, but among more DARTS, and among fewer
+        map(3, 213, 123);
+        due("ofType(21) of 3", x.ofType(21), 1);
+        draw(x, 4, 2134, 1234);
+        due("ofType(211) of 4", x.ofType(211), 1);
+        due("ofType(1111) of 4", x.ofType(1111), 1);
+        draw(x, 2, 21, 12);
+        due("ofType(2) of 2", x.ofType(2), 1);
+        due("ofType(11) of 2", x.ofType(11), 1);
+        // a alone unlike the last, s alone unlike the last
+        map(3, 213, 132);
+        due("ofType(3)", x.ofType(3), 2);
+        x.set(1, 213);
+        due("ofType(3), another a", x.ofType(3), 0);
+        x.set(0, 132);
+        due("ofType(3), another s", x.ofType(3), 2);
 
         says("NONE: no such TYPE of n.");
         for (int type : new int[] {0, 4, 6, 15, 23, 50, 51, 42, 1111, 111111, -5, 500, 12, 1112, 2201, 9, LOW, HIGH}) refused("ofType(" + type + ")", o -> o.ofType(type));
@@ -106,9 +122,17 @@ public final class GroupEdgeTest extends Edges {
         map(7, 1234567, 1234567);
         due("length(1234567)", x.length(1234567), 0);
         due("length(1234576)", x.length(1234576), -2);
-        // another map, another GROUP
+        // another map, another GROUP; another n, too
         x.set(0, 1234576);
         due("length(1234576)", x.length(1234576), 1);
+        map(3, 213, 123);
+        due("length(213)", x.length(213), 1);
+        draw(x, 4, 2134, 1234);
+        due("length(1243)", x.length(1243), -2);
+        due("length(2134)", x.length(2134), 1);
+        x.set(1, 1243);
+        due("length(1243)", x.length(1243), 1);
+        due("length(2143)", x.length(2143), 2);
 
         says("NONE: no such CODE.");
         for (int code : new int[] {0, 1, -12345, 1234, 123456, 12340, 12346, 12344, 11111, 112345, LOW, HIGH}) refused("length(" + code + ")", o -> o.length(code));

@@ -77,7 +77,8 @@ public final class RulesTest {
 
     private static final String[] FORBIDDEN = {
         "\\bthrow\\b", "\\btry\\b", "\\bcatch\\b", "\\bsynchronized\\b", "\\bassert\\b", "->", "::", "\\bimport\\b",
-        "\\bpackage\\b", "\\bdouble\\b", "\\bfloat\\b", "Exact\\(", "\\bstatic \\{", "\\bString\\b", "\\bprotected\\b"
+        "\\bpackage\\b", "\\bdouble\\b", "\\bfloat\\b", "Exact\\(", "\\bstatic \\{", "\\bString\\b", "\\bprotected\\b",
+        "\\b(Integer|Long|Math)\\.[A-Z]"
     };
 
     /** Rules 2 to 6, 11, 12, as far as words tell. */

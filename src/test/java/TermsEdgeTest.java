@@ -195,6 +195,12 @@ public final class TermsEdgeTest extends Edges {
         due("a fault", text(0, "(1 1)"), -3003);
         due("a new text: nothing is told of it", text(0, "(1 2)"), 213);
         due("nor of that", text(1, "(2 1)"), 213);
+        for (String broken : new String[] {"(1 1)", "(1 2", "(1 9", "(1 2) (3 3", "e(", "(1x", "(1 2)(", "e e"}) {
+            holds("a fault", text(0, broken) <= -1000);
+            due("(2 3) behind " + broken, text(0, "(2 3)"), 132);
+            holds("a fault", text(0, broken) <= -1000);
+            due("e behind " + broken, text(0, "e"), 123);
+        }
     }
 
     // ---- classes, the group

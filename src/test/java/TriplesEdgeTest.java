@@ -208,6 +208,17 @@ public final class TriplesEdgeTest extends Edges {
         row("triples(1111111,61,61,..)", w -> x.triples(1111111, 61, 61, w), 840, 0, 840, -1);
         row("triples(1111111,1111111,1111111,..)", w -> x.triples(1111111, 1111111, 1111111, w), 1, 0, 1, -1);
         row("triples(1111111,7,7,..)", w -> x.triples(1111111, 7, 7, w), 720, 720, 720, -1);
+        // one after another on one object: one TYPE unlike the last, and the first again
+        of(5);
+        int[][] after = {{5, 5, 5, 192}, {11111, 5, 5, 24}, {5, 11111, 5, 24}, {5, 5, 11111, 24}, {5, 5, 5, 192}, {2111, 5, 5, 0}, {5, 5, 5, 192}};
+        for (int[] one : after) {
+            for (int what = 0; what < 3; what++) due("triples behind others", x.triples(one[0], one[1], one[2], what), one[3]);
+        }
+        x.degree(3);
+        row("triples of another n", w -> x.triples(3, 3, 3, w), 2, 2, 2, -1);
+        x.degree(5);
+        row("triples of the first n", w -> x.triples(5, 5, 5, w), 192, 192, 192, -1);
+        of(7);
         int sum = 0;
         for (int t3 : TYPES[7]) {
             long maps = x.triples(61, 61, t3, 0);
@@ -240,6 +251,17 @@ public final class TriplesEdgeTest extends Edges {
         row("class 1", w -> x.classes(22111, 331, 7, 1, w), 1235476, 2461357, 1, 168, 0, -1);
         row("the one class", w -> x.classes(7, 1111111, 7, 0, w), 2345671, 1234567, 7, 7, 10, -1);
         for (int what = 0; what < 5; what++) due("how many, what " + what, x.classes(22111, 331, 7, -1, what), 2);
+        // one after another on one object: one TYPE unlike the last, and the first again
+        of(5);
+        int[][] after = {
+            {5, 5, 5, 4, 23451}, {11111, 5, 5, 1, 23451}, {5, 11111, 5, 1, 12345}, {5, 5, 11111, 1, 51234}, {5, 5, 5, 4, 23451}, {5, 11111, 5, 1, 12345},
+            {41, 41, 5, 3, 0}, {5, 41, 41, 3, 0}, {41, 5, 41, 3, 0}, {41, 41, 41, 0, 0}, {5, 11111, 5, 1, 12345}
+        };
+        for (int[] one : after) {
+            String of = "(" + one[0] + "," + one[1] + "," + one[2] + ",..) behind others";
+            due("classes" + of, x.classes(one[0], one[1], one[2], -1, 0), one[3]);
+            if (one[4] > 0) due("class 0" + of, x.classes(one[0], one[1], one[2], 0, 1), one[4]);
+        }
         // each is what it says of a map of its own
         of(5);
         int many = x.classes(32, 32, 5, -1, 0);
