@@ -440,6 +440,17 @@ public final class TriplesEdgeTest extends Edges {
         row("family(..,1)", i -> x.family(i, 1), 2134, 2143, 1243, -2);
         for (int n = 1; n <= 3; n++) for (int s : every(n)) for (int a : every(n)) related(n, s, a);
         for (int s : List.of(2341, 1342, 2143)) for (int a : every(4)) related(4, s, a);
+        // one after another on one object: more, fewer, of another n
+        map(2, 21, 12);
+        due("family of three", x.family(-1, 0), 3);
+        draw(x, 1, 1, 1);
+        due("family of one behind it", x.family(-1, 0), 1);
+        due("family(0,0) behind it", x.family(0, 0), 1);
+        draw(x, 3, 213, 132);
+        row("family(..,0) behind it", i -> x.family(i, 0), 132, 132, 231, -2);
+        row("family(..,1) behind it", i -> x.family(i, 1), 213, 231, 132, -2);
+        draw(x, 3, 123, 123);
+        row("family(..,0) behind it", i -> x.family(i, 0), 123, -2);
         // two, as COLOURS, TURN and FACES bring it to itself or to its mirrored; twelve, the most
         related(5, 14253, 41352);
         related(6, 235146, 513642);
