@@ -440,6 +440,10 @@ public final class TriplesEdgeTest extends Edges {
         row("family(..,1)", i -> x.family(i, 1), 2134, 2143, 1243, -2);
         for (int n = 1; n <= 3; n++) for (int s : every(n)) for (int a : every(n)) related(n, s, a);
         for (int s : List.of(2341, 1342, 2143)) for (int a : every(4)) related(4, s, a);
+        // a round of seven with what stays, with what undoes it
+        map(7, 7123456, 1234567);
+        row("family(..,0)", i -> x.family(i, 0), 1234567, 2345671, 2345671, -2);
+        row("family(..,1)", i -> x.family(i, 1), 2345671, 1234567, 7123456, -2);
         // one after another on one object: more, fewer, of another n
         map(2, 21, 12);
         due("family of three", x.family(-1, 0), 3);

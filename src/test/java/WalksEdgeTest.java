@@ -42,6 +42,12 @@ public final class WalksEdgeTest extends Edges {
         }
         map(1, 1, 1);
         due("walk of one dart", walk(1, "safSAF"), 1);
+        map(7, 2345671, 2134576);
+        for (char one : LETTERS.toCharArray()) {
+            int p = letter(one, 2345671, 2134576);
+            for (int dart = 1; dart <= 7; dart++) due("walk of seven from " + dart + " by " + one, walk(dart, "" + one), at(p, dart));
+            due("made of seven by " + one, made("" + one, 0), p);
+        }
         // k 1, k as many as there are, k 60 of 60 and of 120
         for (int[] of : new int[][] {{1, 20}, {19, 20}, {20, 20}, {21, 40}, {40, 40}, {59, 60}, {60, 60}, {60, 80}, {60, 120}}) {
             map(7, 2345671, 1234567);
