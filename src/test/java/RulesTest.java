@@ -24,6 +24,13 @@ public final class RulesTest {
         System.out.println(what);
     }
 
+    /** Rule 1: each line of the face stands in the source, its parameters by their names. */
+    private static void declarations() throws IOException {
+        String source = Files.readString(Path.of("src/main/java/DrawnMaps.java"));
+        String face = Files.readString(Path.of("../shared/DOC.md")).replaceAll("(?s).*?```java\n(.*?)\n```.*", "$1");
+        for (String line : face.split(";?\n")) if (!source.contains(line)) fail("not as the document has it: " + line);
+    }
+
     /** Rule 1: the face is just the document's. */
     private static void face() throws IOException {
         Set<String> due = new TreeSet<>();
@@ -119,6 +126,7 @@ public final class RulesTest {
     }
 
     public static void main(String[] args) throws IOException {
+        declarations();
         face();
         members();
         words();
